@@ -98,7 +98,7 @@ public final class DeadLetters {
     }
 
     public int letter(int content, int need, int house) {
-        if (!this.house.canHold(content, need, house)) {
+        if (!House.canHold(content, need, house)) {
             return refuse(NO_NUMBER);
         }
         if (this.house.letters >= LETTER_ROOM) {
@@ -557,7 +557,7 @@ public final class DeadLetters {
         int content = tape.bytes[place];
         int need = tape.bytes[place + 1];
         int home = tape.bytes[place + 2];
-        if (!house.canHold(content, need, home)) {
+        if (!House.canHold(content, need, home)) {
             return false;
         }
         house.addLetter(content, need, home);
@@ -682,7 +682,7 @@ public final class DeadLetters {
             return letters - Integer.bitCount(answered);
         }
 
-        private boolean canHold(int content, int need, int home) {
+        private static boolean canHold(int content, int need, int home) {
             return content >= 0 && content <= ALL_TRAITS && need >= 0 && need <= ALL_TRAITS
                     && home >= 0 && home <= HIGHEST_HOUSE;
         }

@@ -62,7 +62,7 @@ public final class ModelTest {
     }
 
     private void fillHouse() {
-        int letters = n(9), children = n(7);
+        int letters = n(3) == 0 ? n(9) : 3 + n(6), children = n(3) == 0 ? n(7) : 2 + n(5);
         for (int i = 0; i < letters; i++) call("letter", set(), set(), n(4) == 0 ? 0 : 1 + n(3));
         for (int i = 0; i < children; i++) call("child", 1 + n(8));
     }
@@ -86,34 +86,51 @@ public final class ModelTest {
         }
     }
 
+    private int aLetter() {
+        return wild((int) Math.max(1, model.call("count", 0)));
+    }
+
+    private int aChild() {
+        return wild((int) Math.max(1, model.call("count", 2)));
+    }
+
+    /** Mostly one that the CHILD KNOWS. */
+    private int aTrait(int child) {
+        int knows = (int) model.call("of", child, 0);
+        int trait = n(8);
+        for (int i = 0; i < 8 && (knows >> trait & 1) == 0; i++) trait = n(8);
+        return n(10) == 0 ? wild(8) : trait;
+    }
+
     private void deed() {
-        switch (n(8)) {
-            case 0: case 1: case 2: call("read", wild(8), wild(6)); break;
-            case 3: call("answer", wild(8), wild(6)); break;
-            case 4: call("lose", wild(8), wild(6)); break;
-            case 5: call("pass"); break;
-            case 6: call("undo"); break;
-            default: for (int i = n(20); i >= 0; i--) call("undo"); break;
+        int child = aChild();
+        switch (n(12)) {
+            case 0: case 1: case 2: case 3: case 4: case 5: call("read", aLetter(), child); break;
+            case 6: call("answer", aLetter(), child); break;
+            case 7: case 8: call("lose", aTrait(child), child); break;
+            case 9: call("pass"); break;
+            case 10: call("undo"); break;
+            default: if (n(4) == 0) for (int i = n(18); i >= 0; i--) call("undo"); break;
         }
     }
 
     private void look() {
         switch (n(19)) {
-            case 0: call("at", wild(8), wild(4)); break;
-            case 1: call("of", wild(6), wild(11)); break;
-            case 2: call("asks", wild(6), wild(8), wild(11)); break;
-            case 3: call("lesson", wild(6), wild(8), n(4) - 1); break;
-            case 4: call("heard", wild(6), n(3) == 0 ? -1 : wild(20)); break;
-            case 5: call("ask", wild(6), wild(2)); break;
+            case 0: call("at", aLetter(), wild(4)); break;
+            case 1: call("of", aChild(), wild(11)); break;
+            case 2: call("asks", aChild(), aLetter(), wild(11)); break;
+            case 3: call("lesson", aChild(), aLetter(), n(3) == 0 ? n(5) - 1 : -1); break;
+            case 4: call("heard", aChild(), n(3) == 0 ? -1 : wild(20)); break;
+            case 5: call("ask", aChild(), wild(2)); break;
             case 6: if (n(6) == 0) for (int c = 0; c < 7; c++) call("matched", c); break;
-            case 7: call("together", wild(8), wild(2)); break;
+            case 7: call("together", aLetter(), wild(2)); break;
             case 8: call("clashes", wild(5)); break;
-            case 9: call("later", wild(6), wild(61)); break;
-            case 10: call("likest", wild(8), wild(2)); break;
+            case 9: call("later", aChild(), n(2) == 0 ? n(6) : wild(61)); break;
+            case 10: call("likest", aLetter(), wild(2)); break;
             case 11: call("lost"); break;
             case 12: call("few", wild(21), wild(100)); break;
             case 13: call("compare", wild(6)); break;
-            case 14: call("drawn", wild(6), wild(2)); break;
+            case 14: call("drawn", aChild(), wild(2)); break;
             case 15: call("count", wild(16)); break;
             case 16: call("blots"); break;
             case 17: call("compare", -1); break;
@@ -195,7 +212,10 @@ public final class ModelTest {
                 case 2: b.append("bars"); break;
                 default: b.append("worth ").append(sum(false, 2)); break;
             }
-            if (n(8) != 0) b.append(" if ").append(test(false, n(10) == 0 ? 4 : 2));
+            if (n(20) == 0) continue;
+            // else too much is shunned, faded and barred for anything to come about
+            b.append(" if ").append(n(3) == 0 ? "trait+letter = 3 and " : "");
+            b.append(test(false, n(10) == 0 ? 4 : 2));
         }
         return b.toString();
     }
@@ -205,11 +225,11 @@ public final class ModelTest {
         for (int i = 1 + n(n(8) == 0 ? 13 : 4); i > 0; i--) {
             if (b.length() > 0) b.append(" ; ");
             switch (n(5)) {
-                case 0: b.append("read ").append(small(8)).append(" to ").append(small(6)); break;
-                case 1: b.append("answer ").append(small(8)).append(" by ").append(small(6)); break;
-                case 2: b.append("lose ").append(small(8)).append(" of ").append(small(6)); break;
+                case 0: b.append("read ").append(small(count(0))).append(" to ").append(small(count(2))); break;
+                case 1: b.append("answer ").append(small(count(0))).append(" by ").append(small(count(2))); break;
+                case 2: b.append("lose ").append(small(8)).append(" of ").append(small(count(2))); break;
                 case 3: b.append("pass"); break;
-                default: b.append("read ").append(sum(true, 1)).append(" to ").append(small(6)); break;
+                default: b.append("read ").append(sum(true, 1)).append(" to ").append(small(count(2))); break;
             }
             if (n(4) == 0) b.append(" times ").append(n(12) == 0 ? wild(22) : 1 + n(4));
             if (n(3) == 0) b.append(" if ").append(test(true, 2));
@@ -217,9 +237,13 @@ public final class ModelTest {
         return b.toString();
     }
 
+    private int count(int what) {
+        return (int) Math.max(1, model.call("count", what));
+    }
+
     private String small(int bound) {
         if (n(6) == 0) return "[" + sum(true, 1) + "]%" + bound;
-        return "" + n(n(3) == 0 ? bound : 2);
+        return "" + n(n(20) == 0 ? bound + 1 : bound);
     }
 
     private String test(boolean orders, int depth) {
