@@ -149,7 +149,7 @@ public final class DeadLetters {
             case 2:
                 return house.grown[child];
             default:
-                return asker.isFading(house, child, what - 3) ? 1 : 0;
+                return asker.holdsNow(house, FADES, child, NONE, what - 3) ? 1 : 0;
         }
     }
 
@@ -163,9 +163,9 @@ public final class DeadLetters {
             case 1:
                 return asker.worthOf(house, house.lawInForce(), child, letter);
             case 2:
-                return asker.isBarred(house, child, letter) ? 1 : 0;
+                return asker.holdsNow(house, BARS, child, letter, NONE) ? 1 : 0;
             default:
-                return asker.isShunned(house, child, letter, what - 3) ? 1 : 0;
+                return asker.holdsNow(house, SHUNS, child, letter, what - 3) ? 1 : 0;
         }
     }
 
@@ -783,8 +783,8 @@ public final class DeadLetters {
             if (kind == READ) {
                 return 0;
             }
-            boolean can = home[first] != 0 && !isAnswered(first) && !asker.isBarred(this, second, first);
-            return can ? 0 : CANNOT_BE;
+            boolean open = home[first] != 0 && !isAnswered(first);
+            return open && !asker.holdsNow(this, BARS, second, first, NONE) ? 0 : CANNOT_BE;
         }
 
         /** Does what objection() has nothing against; the answer is that of the call. */
@@ -1403,7 +1403,13 @@ public final class DeadLetters {
             }
         }
 
-        private boolean holds(Text law, int kind) {
+        /** Whether a CLAUSE of this kind HOLDS in the LAW in FORCE, asked with this much KNOWN on this DAY. */
+        private boolean holds(House house, int kind, int child, int letter, int trait, int knows, int day) {
+            Text law = house.lawInForce();
+            if (law == null) {
+                return false;
+            }
+            poseLaw(house, child, letter, trait, knows, day);
             for (int i = 0; i < law.clauses; i++) {
                 if (law.kind[i] == kind && (law.test[i] == NONE || reckon(law, law.test[i]) == SO)) {
                     return true;
@@ -1412,31 +1418,8 @@ public final class DeadLetters {
             return false;
         }
 
-        private boolean isShunned(House house, int child, int letter, int trait) {
-            Text law = house.lawInForce();
-            if (law == null) {
-                return false;
-            }
-            poseLaw(house, child, letter, trait, house.knows[child], house.term[DAY]);
-            return holds(law, SHUNS);
-        }
-
-        private boolean isFading(House house, int child, int trait) {
-            Text law = house.lawInForce();
-            if (law == null) {
-                return false;
-            }
-            poseLaw(house, child, NONE, trait, house.knows[child], house.term[DAY]);
-            return holds(law, FADES);
-        }
-
-        private boolean isBarred(House house, int child, int letter) {
-            Text law = house.lawInForce();
-            if (law == null) {
-                return false;
-            }
-            poseLaw(house, child, letter, NONE, house.knows[child], house.term[DAY]);
-            return holds(law, BARS);
+        private boolean holdsNow(House house, int kind, int child, int letter, int trait) {
+            return holds(house, kind, child, letter, trait, house.knows[child], house.term[DAY]);
         }
 
         private int worthOf(House house, Text law, int child, int letter) {
@@ -1456,18 +1439,12 @@ public final class DeadLetters {
 
         /** What is KNOWN behind the LETTER by a CHILD who knew this much. */
         private int takeUp(House house, int child, int letter, int knows) {
-            Text law = house.lawInForce();
             int known = knows;
             for (int trait = 0; trait < TRAITS; trait++) {
-                int bit = 1 << trait;
-                boolean isNew = (house.content[letter] & bit & ~known) != 0;
-                if (isNew && Integer.bitCount(known) < house.bears[child]) {
-                    boolean shunned = false;
-                    if (law != null) {
-                        poseLaw(house, child, letter, trait, known, house.term[DAY]);
-                        shunned = holds(law, SHUNS);
-                    }
-                    known = shunned ? known : known | bit;
+                boolean isNew = (house.content[letter] & ~known & 1 << trait) != 0;
+                boolean canBe = isNew && Integer.bitCount(known) < house.bears[child];
+                if (canBe && !holds(house, SHUNS, child, letter, trait, known, house.term[DAY])) {
+                    known |= 1 << trait;
                 }
             }
             return known;
@@ -1475,12 +1452,11 @@ public final class DeadLetters {
 
         /** What a DAY leaves to a CHILD who knew this much. */
         private int whatStays(House house, int child, int knows, int day) {
-            Text law = house.lawInForce();
             int known = knows;
-            for (int trait = 0; trait < TRAITS && law != null; trait++) {
-                if ((knows >> trait & 1) == 1) {
-                    poseLaw(house, child, NONE, trait, knows, day);
-                    known = holds(law, FADES) ? known & ~(1 << trait) : known;
+            for (int trait = 0; trait < TRAITS; trait++) {
+                boolean isKnown = (knows >> trait & 1) == 1;
+                if (isKnown && holds(house, FADES, child, NONE, trait, knows, day)) {
+                    known &= ~(1 << trait);
                 }
             }
             return known;
@@ -1591,10 +1567,15 @@ public final class DeadLetters {
         private int match() {
             weigh();
             int children = house.children;
-            Arrays.fill(best, 0);
+            for (int taken = 0; taken < 1 << house.letters; taken++) {
+                best[children * SETS + taken] = 0;
+            }
             for (int child = children - 1; child >= 0; child--) {
                 for (int taken = 0; taken < 1 << house.letters; taken++) {
-                    best[child * SETS + taken] = mostFrom(child, taken);
+                    // those ahead of a CHILD can't have taken more LETTERS than they are
+                    if (Integer.bitCount(taken) <= child) {
+                        best[child * SETS + taken] = mostFrom(child, taken);
+                    }
                 }
             }
             int taken = 0;

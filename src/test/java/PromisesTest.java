@@ -254,6 +254,16 @@ public final class PromisesTest {
         x.read(0, 0);
         due("full, not refused", Checks.row(x, 1, 1, 1), 0);
         due("nothing ahead of it can be undone", x.undo(), -3);
+
+        DeadLetters y = new DeadLetters();
+        y.feed(0x01010101, 0x01010101, 0, 0, 0);
+        y.end(5);
+        due("the tape ends within the second", y.row(), 1);
+        due("a blot, whatever stood behind the end", y.blots(), 1);
+        y.feed(0x01010101, 0x01010101, 0, 0, 0);
+        y.end(1);
+        due("the tape ends within the first", y.row(), 0);
+        due("a blot", y.blots(), 1);
     }
 
     /** A text, where its fault is due: NONE if it has none. */
@@ -695,6 +705,12 @@ public final class PromisesTest {
         due("knows", x.of(0, 0), 0);
         due("grown", x.of(0, 2), 0);
         due("none", x.undo(), -3);
+        x.read(0, 0);
+        x.read(0, 0);
+        due("read", x.undo(), 0);
+        due("grown", x.of(0, 2), 1);
+        due("knows", x.of(0, 0), 3);
+        x.undo();
         for (int i = 0; i < 17; i++) {
             x.pass();
         }
@@ -902,6 +918,20 @@ public final class PromisesTest {
         x.read(0, 0);
         x.read(2, 0);
         due("the lowest", x.together(1, 1), 1);
+
+        DeadLetters y = new DeadLetters();
+        y.letter(2, 6, 0);
+        y.letter(4, 0, 0);
+        for (int i = 0; i < 3; i++) {
+            y.child(8);
+        }
+        y.read(0, 0);
+        y.read(1, 1);
+        due("two", y.together(0, 1), 3);
+        y.read(0, 2);
+        y.read(1, 2);
+        due("one is fewer than two lower ones", y.together(0, 1), 4);
+        due("one", y.together(0, 0), 1);
     }
 
     private static void clashes() {
@@ -918,6 +948,7 @@ public final class PromisesTest {
         due("0 with 3 letters", x.clashes(5), 3);
         x.letter(0, 1, 5);
         due("both ways count once", x.clashes(5), 5);
+        due("one house, 1, has none", x.clashes(1), 0);
         due("no house", x.clashes(0), -1);
         due("no house", x.clashes(10), -1);
         due("no house", x.clashes(LOW), -1);
@@ -1162,6 +1193,43 @@ public final class PromisesTest {
         due("kept anew", x.image(1), 0);
         due("back", x.back(1), 0);
         due("letters", x.count(0), 3);
+        imagesKeepWhatIsPutAnew();
+    }
+
+    /** What comes into the same places behind back() is not in the other image. */
+    private static void imagesKeepWhatIsPutAnew() {
+        DeadLetters x = new DeadLetters();
+        x.image(0);
+        x.letter(7, 6, 5);
+        x.child(4);
+        x.read(0, 0);
+        x.told(1, 1);
+        x.image(1);
+        x.back(0);
+        x.letter(0, 0, 0);
+        x.letter(0, 0, 0);
+        x.child(1);
+        x.told(7, 1);
+        due("told", x.heard(0, -1), 0);
+        x.back(1);
+        due("letters", x.count(0), 1);
+        due("content", x.at(0, 0), 7);
+        due("need", x.at(0, 1), 6);
+        due("house", x.at(0, 2), 5);
+        due("knows", x.of(0, 0), 7);
+        due("bears", x.of(0, 1), 4);
+        due("grown", x.of(0, 2), 1);
+        due("told", x.heard(0, -1), 1);
+        due("told", x.heard(0, 0), 1);
+        x.forget();
+        x.told(1, 0);
+        due("told not", x.heard(0, 0), 0);
+        x.back(1);
+        due("told", x.heard(0, 0), 1);
+        x.pass();
+        x.back(1);
+        due("nothing can be undone", x.undo(), -3);
+        due("day", x.count(13), 0);
     }
 
     private static void counts() {
