@@ -1,8 +1,12 @@
+import java.util.Set;
+import java.util.TreeSet;
+
 /** What the tests share: counting wrong answers, feeding texts. */
 final class Checks {
     private int wrong = 0;
     private int asked = 0;
     private String about = "";
+    private final Set<Integer> promises = new TreeSet<>();
 
     void about(String what) {
         about = what;
@@ -18,6 +22,29 @@ final class Checks {
 
     void so(String what, boolean is) {
         due(what, is ? 1 : 0, 1);
+    }
+
+    void same(String what, String got, String want) {
+        asked++;
+        if (!got.equals(want)) {
+            wrong++;
+            System.out.println(about + ": " + what + " is [" + got + "], due is [" + want + "]");
+        }
+    }
+
+    /** A new object for what a promise says here, which is told with every wrong answer. */
+    Run run(int promise, String sentence) {
+        promises.add(promise);
+        about("promise " + promise + ": " + sentence);
+        return new Run(this);
+    }
+
+    /** Whether each promise from the first to the last one had a run. */
+    void carried(int first, int last) {
+        about("promises " + first + " to " + last);
+        for (int promise = first; promise <= last; promise++) {
+            so("a test of promise " + promise, promises.contains(promise));
+        }
     }
 
     /** Tells what came out and ends with exit code 1 if an answer was wrong. */
@@ -65,12 +92,16 @@ final class Checks {
         return x.orders();
     }
 
-    static int row(DeadLetters x, int... values) {
+    static byte[] bytesOf(int... values) {
         byte[] bytes = new byte[values.length];
         for (int i = 0; i < bytes.length; i++) {
             bytes[i] = (byte) values[i];
         }
-        put(x, bytes);
+        return bytes;
+    }
+
+    static int row(DeadLetters x, int... values) {
+        put(x, bytesOf(values));
         return x.row();
     }
 }
