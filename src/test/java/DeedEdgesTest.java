@@ -149,6 +149,9 @@ public final class DeedEdgesTest {
         x.go("letter(1, 1, 1); child(1); child(1)").under("bars if child = 0").refused("answer(0, 0)", -3).accepted("answer(0, 1)", 0);
         x = run(18, "not BARRED by what is BROKEN");
         x.go("letter(1, 1, 1); child(1)").under("bars if 1/0 = 1;bars if 1000*1000*1000*2 > 0").accepted("answer(0, 0)", 0);
+        x = run(18, "\"bars\" is asked of a CHILD and a LETTER (trait -1)");
+        x.go("letter(1, 1, 1); child(1)").under("bars if trait = 0-1").refused("answer(0, 0)", -3);
+        x.under("bars if trait > 0-1 or trait < 0-1").accepted("answer(0, 0)", 0);
         x = run(18, "BARRED is asked as it is: not any more behind a reading");
         x.go("letter(1, 1, 1); child(1)").under("bars if served < 1").refused("answer(0, 0)", -3).go("read(0, 0)");
         x.accepted("answer(0, 0)", 1);
@@ -204,6 +207,11 @@ public final class DeedEdgesTest {
         Run x = run(20, "all that FADES is KNOWN no more: all eight, none, of all six");
         x.go("letter(255, 0, 0)").often(6, "child(8)").go("read(0, 0); read(0, 5)").under("fades if child = 5");
         x.all("pass() = 1; of(0, 0) = 255; of(5, 0) = 0; of(5, 2) = 1");
+
+        x = run(20, "\"fades\" is asked of a CHILD and a TRAIT (letter, house, served -1)");
+        x.go("letter(255, 255, 0); child(8); read(0, 0)").under("fades if letter > 0-1 or house > 0-1 or served > 0-1");
+        x.all("pass() = 1; of(0, 0) = 255");
+        x.under("fades if letter = 0-1 and house = 0-1 and served = 0-1 and trait = 3").all("pass() = 2; of(0, 0) = 247");
 
         x = run(20, "the lowest and the highest TRAIT");
         x.go("letter(255, 0, 0); child(8); read(0, 0)").under("fades if trait = 0 or trait = 7").all("pass() = 1; of(0, 0) = 126");

@@ -79,6 +79,12 @@ public final class ImageEdgesTest {
         x.all("at(0, 3) = 0; of(0, 0) = 3; of(0, 2) = 1; asks(0, 0, 1) = 11; of(0, 4) = 1; heard(0, -1) = 2; force(2) = -2; force(1) = 0");
         x.all("asks(0, 0, 1) = 12");
 
+        x = run(38, "LETTERS and CHILDREN are as they were then, where others came to their places");
+        x.go("image(0); letter(7, 6, 5); letter(8, 9, 0); child(4); read(0, 0); answer(0, 0); image(1); back(0)");
+        x.go("letter(1, 2, 3); letter(3, 4, 4); child(2); read(1, 0); answer(1, 0); back(1)");
+        x.all("at(0, 0) = 7; at(0, 1) = 6; at(0, 2) = 5; at(0, 3) = 1; at(1, 0) = 8; at(1, 1) = 9; at(1, 2) = 0; at(1, 3) = 0");
+        x.all("of(0, 0) = 7; of(0, 1) = 4; of(0, 2) = 1");
+
         x = run(38, "what is TOLD is as it was then, number by number");
         x.go("letter(1, 0, 0); letter(2, 0, 0); child(8); told(0, 1); image(0); forget(); told(1, 0)");
         x.all("heard(0, 0) = 0; heard(0, 1) = 1; heard(0, 2) = -1");
@@ -204,10 +210,10 @@ public final class ImageEdgesTest {
 
     private static void statusLeft() {
         String[] others = {"at(9, 9)", "at(0, 0)", "of(9, 9)", "of(0, 0)", "asks(9, 9, 9)", "feed(0, 0, 0, 0, 0)", "end(0)", "end(-1)",
-            "blots()", "fault()", "stopped()", "lesson(0, 0, -1)", "lesson(9, 9, 9)", "forget()", "heard(0, -1)", "heard(9, 9)", "ask(0, 0)",
-            "ask(9, 9)", "matched(0)", "matched(9)", "together(0, 0)", "together(9, 9)", "clashes(1)", "clashes(0)", "later(0, 1)",
-            "later(9, 99)", "likest(0, 0)", "likest(9, 9)", "lost()", "few(1, 1)", "few(0, 0)", "compare(-1)", "compare(9)", "drawn(0, 0)",
-            "drawn(9, 9)", "count(0)", "count(99)", "status()"};
+            "blots()", "fault()", "stopped()", "lesson(0, 0, -1)", "lesson(9, 9, 9)", "forget()", "heard(0, -1)", "heard(9, 9)",
+            "ask(0, 0)", "ask(9, 9)", "matched(0)", "matched(9)", "together(0, 0)", "together(9, 9)", "clashes(1)", "clashes(0)",
+            "later(0, 1)", "later(9, 99)", "likest(0, 0)", "likest(9, 9)", "lost()", "few(1, 1)", "few(0, 0)", "compare(-1)",
+            "compare(9)", "drawn(0, 0)", "drawn(9, 9)", "count(0)", "count(99)", "status()"};
         Run x = run(40, "the latest call of those that are named: others leave it, whatever they answer, and are not counted");
         x.go("letter(1, 1, 1); child(8); force(9)");
         for (String call : others) {

@@ -66,7 +66,11 @@ public final class PaperEdgesTest {
 
     private static void lessonCannotBe() {
         Run x = oneTraitEach(22, "NONE (it can't be): one more than the CHILD BEARS").go("child(7); child(8)");
-        x.all("lesson(0, 0, -1) = -1; lesson(0, 0, 0) = -1; lesson(1, 0, -1) = 8");
+        x.all("lesson(0, 0, -1) = -1; lesson(0, 0, 0) = -1; lesson(1, 0, -1) = 8; lesson(0, 0, -1) = -1; lesson(0, 0, 7) = -1");
+
+        x = run(22, "NONE (it can't be): whatever LESSON another CHILD had ahead of it");
+        x.go("letter(1, 3, 0); letter(2, 4, 0); child(8); child(8)").under("shuns if child = 0 and knows = 0");
+        x.all("lesson(1, 0, -1) = 2; lesson(1, 1, -1) = -1; lesson(0, 0, -1) = -1; lesson(0, 0, 0) = -1");
 
         x = run(22, "just as many as the CHILD BEARS");
         x.go("letter(1, 3, 0); letter(2, 7, 0); child(2)").all("lesson(0, 0, -1) = 2; lesson(0, 1, -1) = -1");
@@ -192,6 +196,9 @@ public final class PaperEdgesTest {
         x = oneTraitEach(26, "how many sets are left at most: 128 of 256").go("child(8)");
         x.all("ask(0, 0) = 0; ask(0, 1) = 128").go("told(0, 1)").all("ask(0, 0) = 1; ask(0, 1) = 64");
 
+        x = run(26, "the sets by which it is known are counted from the first");
+        x.go("letter(1, 0, 0); letter(2, 0, 0); child(8); told(0, 1)").all("ask(0, 0) = 1; ask(0, 1) = 1; heard(0, -1) = 2");
+
         x = run(26, "the highest TRAIT, if it alone tells sets apart");
         x.go("letter(128, 0, 0); child(8)").all("ask(0, 0) = 7; ask(0, 1) = 1");
 
@@ -226,6 +233,11 @@ public final class PaperEdgesTest {
         x = run(27, "each with one at most: more CHILDREN than LETTERS");
         x.go("letter(0, 0, 1); letter(0, 0, 9)").often(6, "child(1)").under("worth child");
         x.all("matched(0) = 9; matched(1) = 100; matched(2) = 100; matched(3) = 100; matched(4) = 100; matched(5) = 0; matched(6) = 1");
+
+        x = run(27, "behind back() fewer CHILDREN, fewer LETTERS");
+        x.go("letter(0, 0, 1); child(1); image(0); letter(0, 0, 1); letter(0, 0, 1); child(1); child(1)").law("worth 9", 0).go("force(0)");
+        x.all("matched(0) = 27; matched(3) = 2").go("back(0)").all("matched(0) = 0; matched(1) = 0; matched(2) = -1").under("worth 5");
+        x.all("matched(0) = 5; matched(1) = 0");
 
         x = run(27, "not ANSWERED, with a HOUSE, none BARRED");
         x.go("letter(0, 0, 1); letter(0, 0, 0); letter(0, 0, 1); letter(0, 0, 1); child(1); answer(0, 0)");

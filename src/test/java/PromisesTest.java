@@ -343,7 +343,7 @@ public final class PromisesTest {
     }
 
     private static void lawLimits() {
-        CHECKS.about("limits of texts");
+        CHECKS.about("promises 12, 13, 14: limits of texts");
         faultOf(false, times("bars;", 11) + "bars", -1);
         faultOf(false, times("bars;", 12) + "bars", 60);
         faultOf(false, times("bars;", 12) + "  bars", 62);
@@ -386,7 +386,7 @@ public final class PromisesTest {
     }
 
     private static void sums() {
-        CHECKS.about("sums");
+        CHECKS.about("promise 12: sums");
         worth("2+3*4", 14);
         worth("[2+3]*4", 20);
         worth("20-5-3", 12);
@@ -434,7 +434,7 @@ public final class PromisesTest {
     }
 
     private static void tests() {
-        CHECKS.about("tests");
+        CHECKS.about("promise 12: tests");
         test("1 < 2", true);
         test("2 < 2", false);
         test("3 > 2", true);

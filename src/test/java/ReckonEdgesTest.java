@@ -51,6 +51,11 @@ public final class ReckonEdgesTest {
         x.all("later(0, 7) = 128; later(0, 8) = 0");
         x.under("fades if knows > 7 and trait < 2").all("later(0, 1) = 252; later(0, 60) = 252");
 
+        x = run(30, "\"fades\" is asked with letter, house, served -1");
+        x.go("letter(255, 255, 0); child(8); read(0, 0)").under("fades if letter > 0-1 or house > 0-1 or served > 0-1");
+        x.is("later(0, 1)", 255);
+        x.under("fades if letter = 0-1 and house = 0-1 and served = 0-1").all("later(0, 1) = 0");
+
         x = run(30, "nothing else being done: as pass() would have it");
         x.go("letter(255, 0, 0); child(8); read(0, 0)").under("fades if trait = day").all("later(0, 3) = 248; pass() = 1; pass() = 2");
         x.all("pass() = 3; of(0, 0) = 248; later(0, 0) = 248; later(0, 5) = 0");

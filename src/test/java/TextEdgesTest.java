@@ -9,6 +9,9 @@ public final class TextEdgesTest {
     public static void main(String[] args) {
         tokens();
         blanks();
+        signs();
+        tests();
+        links();
         clauses();
         parts();
         partsOfOrders();
@@ -116,6 +119,109 @@ public final class TextEdgesTest {
         law(first, "bars if (1=1]", 12);
     }
 
+    private static void signs() {
+        String number = "a NUMBER is no sign, whatever its value";
+        int[] signs = {'%', '(', ')', '*', '+', '-', '/', ';', '<', '=', '>', '[', ']'};
+        for (int sign : signs) {
+            law(number, "worth 1 " + sign + " 1", 8);
+            law(number, "bars if 1 " + sign + " 1", 10);
+            law(number, "bars " + sign + " bars", 5);
+        }
+        String bytes = "single other bytes that are no signs here, where a sign could stand";
+        int[] others = {0, 1, 2, 33, 38, 44, 94, 124, 255};
+        for (int other : others) {
+            law(bytes, "worth 1" + (char) other + "1", 7);
+            law(bytes, "bars if 1" + (char) other + "1", 9);
+        }
+    }
+
+    private static void tests() {
+        String plain = "PLAIN: \"not\" PLAIN | \"(\" TEST \")\" | SUM (\"<\" | \">\" | \"=\") SUM";
+        both(plain, "bars if 1", "pass if 1", 9);
+        both(plain, "bars if 1 2 3", "pass if 1 2 3", 10);
+        both(plain, "bars if 1 and 2=2", "pass if 1 and 2=2", 10);
+        both(plain, "bars if 1=", "pass if 1=", 10);
+        both(plain, "bars if 1<", "pass if 1<", 10);
+        both(plain, "bars if 1>", "pass if 1>", 10);
+        both(plain, "bars if 1=)", "pass if 1=)", 10);
+        both(plain, "bars if 1=;bars", "pass if 1=;pass", 10);
+        both(plain, "bars if 1=1=1", "pass if 1=1=1", 11);
+        both(plain, "bars if =1", "pass if =1", 8);
+        both(plain, "bars if ()", "pass if ()", 9);
+        both(plain, "bars if (1)", "pass if (1)", 10);
+        both(plain, "bars if (1=)", "pass if (1=)", 11);
+        both(plain, "bars if (1=1", "pass if (1=1", 12);
+        both(plain, "bars if (1=1)=1", "pass if (1=1)=1", 13);
+        both(plain, "bars if (1=1)+(1=1)", "pass if (1=1)+(1=1)", 13);
+        both(plain, "bars if (1=1)*(1=1)", "pass if (1=1)*(1=1)", 13);
+        both(plain, "bars if (1=1)<(1=1)", "pass if (1=1)<(1=1)", 13);
+        both(plain, "bars if (1=1)(1=1)", "pass if (1=1)(1=1)", 13);
+        both(plain, "bars if not", "pass if not", 11);
+        both(plain, "bars if not not", "pass if not not", 15);
+        both(plain, "bars if 1 not=1", "pass if 1 not=1", 10);
+        String more = "TEST: BOTH {\"or\" BOTH}. BOTH: PLAIN {\"and\" PLAIN}";
+        both(more, "bars if 1=1 or", "pass if 1=1 or", 14);
+        both(more, "bars if 1=1 and", "pass if 1=1 and", 15);
+        both(more, "bars if 1=1 and or 1=1", "pass if 1=1 and or 1=1", 16);
+        both(more, "bars if or 1=1", "pass if or 1=1", 8);
+        both(more, "bars if 1=1 1=1", "pass if 1=1 1=1", 12);
+        String part = "PART: NUMBER | \"[\" SUM \"]\" | a word";
+        law(part, "worth []", 7);
+        law(part, "worth [1=1]", 8);
+        law(part, "worth [1", 8);
+        law(part, "worth ]", 6);
+        law(part, "worth (1)", 6);
+        law(part, "worth 1+", 8);
+        law(part, "worth 1*", 8);
+        law(part, "worth 1**1", 8);
+        law(part, "worth +1", 6);
+        law(part, "worth 1+*1", 8);
+        law(part, "bars if [1=1]", 10);
+        law(part, "worth worth", 6);
+        law(part, "worth done", 6);
+        law(part, "worth latest", 6);
+        law(part, "worth open", 6);
+        orders(part, "pass if child=1", 8);
+        orders(part, "pass if mood=1", 8);
+        orders(part, "pass if served=1", 8);
+    }
+
+    private static void links() {
+        String order = "\"read\" SUM \"to\" SUM | \"answer\" SUM \"by\" SUM | \"lose\" SUM \"of\" SUM | \"pass\"";
+        orders(order, "read 0 by 0", 7);
+        orders(order, "read 0 of 0", 7);
+        orders(order, "read 0 0", 7);
+        orders(order, "read 0;pass", 6);
+        orders(order, "read to 0", 5);
+        orders(order, "read 0 to to 0", 10);
+        orders(order, "read 0 to;pass", 9);
+        orders(order, "answer 0 to 0", 9);
+        orders(order, "answer 0 of 0", 9);
+        orders(order, "lose 0 to 0", 7);
+        orders(order, "lose 0 by 0", 7);
+        orders(order, "pass 0", 5);
+        orders(order, "pass to 0", 5);
+        orders(order, "worth 1", 0);
+        String tail = "[\"times\" TIMES] [\"if\" TEST]";
+        orders(tail, "pass times", 10);
+        orders(tail, "pass times if 1=1", 11);
+        orders(tail, "pass times 2 times 2", 13);
+        orders(tail, "pass times 2 2", 13);
+        orders(tail, "pass if 1=1 times 2", 12);
+        orders(tail, "pass if 1=1 if 1=1", 12);
+        orders(tail, "read 0 times 2 to 0", 7);
+        String law = "(\"worth\" SUM | \"shuns\" | \"fades\" | \"bars\") [\"if\" TEST]";
+        law(law, "bars times 2", 5);
+        law(law, "bars 1", 5);
+        law(law, "shuns 1", 6);
+        law(law, "fades 1", 6);
+        law(law, "worth", 5);
+        law(law, "worth 1 1", 8);
+        law(law, "pass", 0);
+        law(law, "if 1=1", 0);
+        law(law, "bars if 1=1 if 1=1", 12);
+    }
+
     private static void clauses() {
         String most = "CLAUSE {\";\" CLAUSE}, 12 at most (FAULT at the 13th's first TOKEN)";
         both(most, times("bars;", 11) + "bars", times("pass;", 11) + "pass", -1);
@@ -164,6 +270,12 @@ public final class TextEdgesTest {
 
         Run x = run(12, "50 PARTS in each TEXT");
         x.go("letter(1, 1, 1); child(8)").law(sum(50), 0).law(sum(51), -6).law(sum(50), 1).all("force(1) = -1; asks(0, 0, 1) = 50");
+
+        x = run(13, "one TEXT behind the other, each as long as can be");
+        for (int i = 0; i < 12; i++) {
+            x.orders("pass if 49=" + times("1+", 48) + "1", 1);
+        }
+        x.is("count(13)", 12);
 
         x = run(12, "50 PARTS, all of them waiting for their turn within brackets and without");
         x.go("letter(1, 1, 1); child(8)").under("worth " + times("1+[", 8) + times("1+", 41) + "1" + times("]", 8)).is("asks(0, 0, 1)", 50);
@@ -442,6 +554,13 @@ public final class TextEdgesTest {
         so(matter, "1=1 or (1/0=1 and (1/0=1 or 1/0=1))");
         broken(matter, "(1=2 or 1/0=1) or 1=1");
         notSo(matter, "1=2 and (1/0=1 or 1=1) and 1/0=1");
+        String turned = "\"not\" PLAIN, within one another";
+        so(turned, "not (not (1=1))");
+        notSo(turned, "not (not (1=2))");
+        notSo(turned, "not (not (not (1=1)))");
+        so(turned, "not (not (not (1=2)))");
+        so(turned, "not not (not not 1=1)");
+        so(turned, "not (1=2) and not (not (1=1) or 1=2)");
         String edges = "< > = at equal SUMS and one beside";
         so(edges, "1 < 2");
         notSo(edges, "2 < 2");
