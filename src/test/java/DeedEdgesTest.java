@@ -96,6 +96,10 @@ public final class DeedEdgesTest {
         x = run(17, "served as it is then");
         x.go("letter(255, 3, 0); child(8)").under("shuns if served = 2").all("read(0, 0) = 2; of(0, 0) = 3");
 
+        x = run(17, "\"shuns\" is asked of the LETTER that is READ, on the DAY that it is");
+        x.go("letter(7, 0, 3); letter(7, 0, 4); child(8); child(8)").under("shuns if letter = 1 and house = 4 and trait = 0 and day = 999");
+        x.all("read(1, 0) = 3; read(0, 1) = 3").go("lose(0, 0); terms(0, 999)").all("read(1, 0) = 0; read(0, 0) = 1; of(0, 0) = 7");
+
         x = run(17, "a \"shuns\" that is BROKEN does not HOLD");
         x.go("letter(7, 0, 0); child(8)").under("shuns if 1/knows = 1").all("read(0, 0) = 1; of(0, 0) = 1");
     }
@@ -152,6 +156,9 @@ public final class DeedEdgesTest {
         x = run(18, "\"bars\" is asked of a CHILD and a LETTER (trait -1)");
         x.go("letter(1, 1, 1); child(1)").under("bars if trait = 0-1").refused("answer(0, 0)", -3);
         x.under("bars if trait > 0-1 or trait < 0-1").accepted("answer(0, 0)", 0);
+        x = run(18, "BARRED from this LETTER, on this DAY");
+        x.go("letter(1, 1, 1); letter(1, 1, 1); child(1)").under("bars if letter = 1 and day = 999").go("terms(0, 999)");
+        x.refused("answer(1, 0)", -3).accepted("answer(0, 0)", 0).go("terms(0, 998)").accepted("answer(1, 0)", 0);
         x = run(18, "BARRED is asked as it is: not any more behind a reading");
         x.go("letter(1, 1, 1); child(1)").under("bars if served < 1").refused("answer(0, 0)", -3).go("read(0, 0)");
         x.accepted("answer(0, 0)", 1);

@@ -155,6 +155,10 @@ public final class HouseEdgesTest {
         x.under("fades if letter > 0-1 or house > 0-1 or served > 0-1").is("of(0, 3)", 0);
         x.under("fades if letter < 0-1 or house < 0-1 or served < 0-1").is("of(0, 3)", 0);
 
+        x = run(5, "fades is asked with the DAY, the MOOD and what is KNOWN as they are");
+        x.go("letter(255, 0, 0); child(8); child(3); read(0, 1)").under("fades if day = 999 and mood = 9 and child = 1 and knows = 3");
+        x.go("terms(2, 9)").is("of(1, 3)", 0).go("terms(0, 999)").all("of(1, 3) = 1; of(0, 3) = 0; lose(0, 1) = 2; of(1, 3) = 0");
+
         x = run(5, "a CLAUSE HOLDS, if its \"if\" is so and not BROKEN");
         x.go("child(1)").under("fades").is("of(0, 3)", 1).under("fades if 1 = 2").is("of(0, 3)", 0);
         x.under("fades if 1/0 = 1").is("of(0, 3)", 0).under("fades if 1%0 = 1;fades").is("of(0, 3)", 1);
@@ -178,6 +182,13 @@ public final class HouseEdgesTest {
         x.go("letter(1, 1, 0); child(1)").under("bars").is("asks(0, 0, 2)", 1).under("bars if 1 = 2").is("asks(0, 0, 2)", 0);
         x.under("bars if trait = 0-1").is("asks(0, 0, 2)", 1).under("bars if trait > 0-1 or trait < 0-1").is("asks(0, 0, 2)", 0);
         x.under("shuns;fades").is("asks(0, 0, 2)", 0).under("bars if 1/0=1 or 1=1").is("asks(0, 0, 2)", 0);
+
+        x = run(6, "\"bars\" is asked of a CHILD and a LETTER");
+        x.go("letter(1, 0, 3); letter(2, 3, 4); child(8); child(8); read(0, 0)");
+        x.under("bars if letter = 1 and child = 0 and house = 4 and served = 1").all("asks(0, 1, 2) = 1; asks(0, 0, 2) = 0");
+        x.all("asks(1, 1, 2) = 0");
+        x.under("bars if day = 999").is("asks(0, 1, 2)", 0).go("terms(0, 999)").is("asks(0, 1, 2)", 1);
+        x.under("bars if mood = 9").is("asks(0, 1, 2)", 0).go("terms(2, 9)").is("asks(0, 1, 2)", 1);
 
         x = run(6, "BARRED in either of two \"bars\"");
         x.go("letter(1, 1, 1); child(1); child(1); child(1)").under("bars if child = 0;worth 1;bars if child = 2");
@@ -250,6 +261,9 @@ public final class HouseEdgesTest {
         x.go("letter(1, 3, 4); letter(2, 3, 4); child(8); child(8); read(0, 1)");
         x.under("shuns if child = 1 and letter = 1 and trait = 5 and house = 4 and served = 1 and knows = 1");
         x.all("asks(1, 1, 8) = 1; asks(1, 1, 7) = 0; asks(1, 0, 8) = 0; asks(0, 1, 8) = 0");
+
+        x = run(6, "\"shuns\" is asked on the DAY as it is");
+        x.go("letter(1, 1, 1); child(1)").under("shuns if day = 999").is("asks(0, 0, 3)", 0).go("terms(0, 999)").is("asks(0, 0, 3)", 1);
 
         x = run(6, "A CHILD SHUNS a TRAIT, if \"shuns\" HOLDS: not, if it is BROKEN");
         x.go("letter(1, 1, 1); child(1)").under("shuns if 1/0 = 0").is("asks(0, 0, 3)", 0).under("bars;fades;worth 1");

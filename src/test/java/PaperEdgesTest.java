@@ -320,7 +320,8 @@ public final class PaperEdgesTest {
         Run x = run(29, "of which one has NEED of a TRAIT that is CONTENT of the other one and not of itself");
         x.go("letter(0, 128, 1); letter(128, 0, 1)").is("clashes(1)", 1).go("letter(128, 128, 1)").is("clashes(1)", 2);
         x = run(29, "the later one has NEED of it");
-        x.go("letter(128, 0, 1); letter(0, 128, 1)").is("clashes(1)", 1);
+        x.go("letter(128, 0, 1); letter(0, 128, 1)").is("clashes(1)", 1).go("letter(1, 0, 9); letter(0, 1, 9)");
+        x.all("clashes(9) = 1; clashes(1) = 1");
         x = run(29, "both have: one two");
         x.go("letter(1, 2, 1); letter(2, 1, 1)").is("clashes(1)", 1);
         x = run(29, "CONTENT of itself, too: none");

@@ -148,6 +148,11 @@ public final class ReckonEdgesTest {
         }
         x.is("compare(-1)", 384);
 
+        x = run(34, "each answer by itself: its CHILD, its LETTER");
+        x.go("letter(1, 1, 1); letter(3, 7, 2); letter(7, 0, 0); child(8); child(2); read(2, 0); read(1, 1)");
+        x.law("worth letter*10+child", 0);
+        x.law("worth house*10+served", 1).all("compare(0) = 63; compare(1) = 67; compare(-1) = 7");
+
         x = run(34, "in place of that in FORCE; ANSWERED ones, those without a HOUSE, BARRED ones count");
         x.go("letter(1, 1, 0); letter(1, 1, 1); child(8); read(0, 0); answer(1, 0)").law("worth 5;bars", 0).law("worth 7", 1);
         x.go("force(0)");
