@@ -262,6 +262,9 @@ public final class HouseEdgesTest {
         x.under("shuns if child = 1 and letter = 1 and trait = 5 and house = 4 and served = 1 and knows = 1");
         x.all("asks(1, 1, 8) = 1; asks(1, 1, 7) = 0; asks(1, 0, 8) = 0; asks(0, 1, 8) = 0");
 
+        x = run(6, "whether TRAIT t is SHUNNED: KNOWN or not");
+        x.go("letter(3, 0, 0); child(8); read(0, 0)").under("shuns if trait = 0").all("of(0, 0) = 3; asks(0, 0, 3) = 1; asks(0, 0, 4) = 0");
+
         x = run(6, "\"shuns\" is asked on the DAY as it is");
         x.go("letter(1, 1, 1); child(1)").under("shuns if day = 999").is("asks(0, 0, 3)", 0).go("terms(0, 999)").is("asks(0, 0, 3)", 1);
 

@@ -85,6 +85,11 @@ public final class ImageEdgesTest {
         x.all("at(0, 0) = 7; at(0, 1) = 6; at(0, 2) = 5; at(0, 3) = 1; at(1, 0) = 8; at(1, 1) = 9; at(1, 2) = 0; at(1, 3) = 0");
         x.all("of(0, 0) = 7; of(0, 1) = 4; of(0, 2) = 1");
 
+        x = run(38, "LAWS are as they were then, where others came to their numbers");
+        x.go("letter(1, 1, 1); child(8)").law("worth 11", 0).go("image(0)").law("worth 12", 1).go("force(1); image(1); back(0)");
+        x.all("count(4) = 1; count(12) = -1; compare(1) = -1").law("worth 13", 1).go("force(1)").all("asks(0, 0, 1) = 13; compare(0) = 11");
+        x.go("back(1)").all("count(4) = 2; count(12) = 1; asks(0, 0, 1) = 12; compare(1) = 12; compare(0) = 11");
+
         x = run(38, "what is TOLD is as it was then, number by number");
         x.go("letter(1, 0, 0); letter(2, 0, 0); child(8); told(0, 1); image(0); forget(); told(1, 0)");
         x.all("heard(0, 0) = 0; heard(0, 1) = 1; heard(0, 2) = -1");

@@ -102,6 +102,9 @@ public final class PaperEdgesTest {
         x.go("letter(1, 3, 1); letter(2, 0, 0); child(8); answer(0, 0)").all("lesson(0, 0, -1) = 2; lesson(0, 0, 0) = 0");
         x.all("lesson(0, 0, 1) = 1");
 
+        x = run(22, "for a CHILD and a LETTER: BARRED or not");
+        x.go("letter(1, 3, 1); letter(2, 0, 1); child(8)").under("bars").all("asks(0, 0, 2) = 1; lesson(0, 0, -1) = 2; lesson(0, 0, 1) = 1");
+
         x = run(22, "(as often as may be): the same LETTER twice");
         x.go("letter(7, 1, 0); child(8)").under("shuns if trait + knows < 2 or trait + knows > 2");
         x.all("read(0, 0) = 1; of(0, 0) = 4; lesson(0, 0, -1) = 2");
@@ -167,6 +170,10 @@ public final class PaperEdgesTest {
     }
 
     private static void heardTold() {
+        Run y = run(25, "sets of LETTERS: ANSWERED ones, those without a HOUSE, those from which the CHILD is BARRED");
+        y.go("letter(1, 0, 1); letter(2, 0, 0); child(8); answer(0, 0)").under("bars").all("heard(0, -1) = 4; heard(0, 3) = 3");
+        y.go("told(0, 1); told(1, 1)").all("heard(0, -1) = 1; heard(0, 0) = 3");
+
         Run x = run(25, "all eight TOLD are asked, the first and the last");
         for (int i = 0; i < 8; i++) {
             x.go("letter(" + (1 << i) + ", 0, 0); told(" + i + ", " + i % 2 + ")");
@@ -255,6 +262,9 @@ public final class PaperEdgesTest {
     }
 
     private static void matchedFirst() {
+        Run y = run(27, "CHILDREN with LETTERS: also one that KNOWS nothing of the NEED, or not all");
+        y.go("letter(1, 3, 1); letter(4, 4, 1); child(8); child(8); read(0, 0)").all("matched(0) = 1; matched(1) = 0; matched(2) = 1");
+
         Run x = run(27, "the first as a row of LETTERS by CHILDREN (100: none, behind all)");
         x.go("letter(0, 0, 1); letter(0, 0, 1); child(1); child(1); child(1)").all("matched(0) = 0; matched(1) = 0; matched(2) = 1");
         x.all("matched(3) = 100");
@@ -293,9 +303,12 @@ public final class PaperEdgesTest {
     private static void togetherFewest() {
         Run x = run(28, "the fewest; the lowest as bits");
         x.go("letter(15, 255, 0); letter(240, 0, 0); letter(255, 0, 0)").often(6, "child(8)");
-        x.go("read(0, 1); read(1, 2); read(0, 3); read(1, 4)");
+        x.go("read(0, 1); read(1, 2); read(0, 3); read(1, 4)").all("together(0, 0) = 2; together(0, 1) = 6").under("bars");
         x.all("together(0, 0) = 2; together(0, 1) = 6").go("read(2, 5)").all("together(0, 0) = 1; together(0, 1) = 32").go("read(2, 0)");
         x.all("together(0, 1) = 1");
+
+        x = run(28, "of a LETTER: ANSWERED or not");
+        x.go("letter(1, 1, 1); child(8); read(0, 0); answer(0, 0)").all("at(0, 3) = 1; together(0, 0) = 1; together(0, 1) = 1");
     }
 
     private static void clashes() {

@@ -18,7 +18,12 @@ public final class ReckonEdgesTest {
         schoolsSeeds();
         schoolsDays();
         schoolsOnPaper();
+        schoolsDeeds();
         drawn();
+        drawnStays();
+        drawnBehindBack();
+        drawnOfSix();
+        drawnBehindRefused();
         CHECKS.carried(30, 36);
         CHECKS.close();
     }
@@ -80,6 +85,10 @@ public final class ReckonEdgesTest {
         x.go("letter(255, 0, 0)").often(6, "child(8)").all("likest(0, 0) = 0; likest(0, 1) = 8").go("read(0, 5)");
         x.all("likest(0, 0) = 5; likest(0, 1) = 0");
         x.go("read(0, 3)").all("likest(0, 0) = 3").go("read(0, 0)").all("likest(0, 0) = 0");
+
+        x = run(31, "LIKEST to a LETTER: ANSWERED or not, by CHILDREN that are BARRED or not, by its CONTENT, not by its NEED");
+        x.go("letter(3, 12, 1); child(8); child(8); read(0, 1)").under("bars if child = 1").all("likest(0, 0) = 1; likest(0, 1) = 0");
+        x.all("answer(0, 0) = 0; likest(0, 0) = 1; likest(0, 1) = 0");
     }
 
     private static void lost() {
@@ -97,6 +106,9 @@ public final class ReckonEdgesTest {
 
         x = run(32, "by the last CHILD, too");
         x.go("letter(255, 255, 1)").often(6, "child(8)").is("lost()", 1).go("read(0, 5)").is("lost()", 0);
+
+        x = run(32, "KNOWN by nobody: one that is BARRED is somebody; with a HOUSE or without");
+        x.go("letter(1, 1, 1); letter(0, 1, 0); letter(0, 2, 0); letter(0, 2, 1); child(8); read(0, 0)").under("bars").is("lost()", 12);
     }
 
     private static void few() {
@@ -127,7 +139,7 @@ public final class ReckonEdgesTest {
 
         x = run(33, "of n LETTERS, whatever LETTERS there are");
         x.often(8, "letter(1, 1, 1)").go("terms(0, 5); terms(2, 5)").all("few(1, 2) = 640000000000; few(2, 2) = 960000000000");
-        x.all("few(3, 2) = 1000000000000");
+        x.all("few(3, 2) = 1000000000000").go("child(8); answer(0, 0); answer(1, 0)").all("few(1, 2) = 640000000000");
     }
 
     private static void compare() {
@@ -208,6 +220,30 @@ public final class ReckonEdgesTest {
         x.go("letter(3, 1, 0); letter(12, 0, 0); child(8); child(8)").all("schools(0, 60) = 0");
     }
 
+    /** With SEED 999999 the first time LETTER 1 is READ to CHILD 0. */
+    private static void schoolsDeeds() {
+        Run x = run(35, "READ, whether it has a HOUSE or not");
+        x.go("letter(3, 1, 1); letter(12, 0, 0); child(8); child(8)").all("schools(999999, 1) = 0; drawn(0, 0) = 12; drawn(0, 1) = 1");
+
+        x = school(35, "READ, whether it is ANSWERED or not, BARRED or not");
+        x.go("answer(1, 0)").all("schools(999999, 1) = 0; drawn(0, 0) = 12; drawn(0, 1) = 1");
+        x.under("bars").all("schools(999999, 1) = 0; drawn(0, 0) = 12; drawn(0, 1) = 1");
+
+        x = school(35, "READ as the CHILD SHUNS");
+        x.under("shuns if letter = 1 and child = 0 and trait = 2").all("schools(999999, 1) = 0; drawn(0, 0) = 8; drawn(0, 1) = 1");
+
+        x = run(35, "READ as long as the CHILD KNOWS fewer than it BEARS");
+        x.go("letter(3, 1, 1); letter(12, 0, 9); child(1); child(8)").all("schools(999999, 1) = 0; drawn(0, 0) = 4; drawn(0, 1) = 1");
+
+        x = school(35, "ANSWERED lets nobody grow, nor does a DAY");
+        x.all("schools(0, 1) = 1; drawn(0, 1) = 0; drawn(1, 1) = 0");
+
+        x = run(35, "a DRAW of one LETTER, of one CHILD is a DRAW, too");
+        // the third DRAW is 1, 0, 2, 2; the second would be 2, 1, 1, 0, the first 0, 1, 2, 2
+        x.go("letter(3, 1, 1); child(8)").all("schools(0, 1) = 1; drawn(0, 1) = 0; schools(2, 1) = 0; drawn(0, 1) = 1");
+        x.all("schools(4, 1) = 0; drawn(0, 1) = 0; schools(7, 1) = 0; drawn(0, 1) = 0");
+    }
+
     private static void schoolsDays() {
         Run x = school(35, "(at DAY 999 it ends)");
         x.go("terms(0, 999)").accepted("schools(999999, 60)", 0).all("drawn(0, 0) = 0; drawn(0, 1) = 0; count(13) = 999");
@@ -251,5 +287,77 @@ public final class ReckonEdgesTest {
         x = school(36, "Behind the latest SCHOOLS, whatever is done then");
         x.go("image(0); schools(999999, 1); read(0, 0); read(0, 1); pass()").all("drawn(0, 0) = 12; drawn(0, 1) = 1; drawn(1, 0) = 0");
         x.go("back(0)").all("drawn(0, 0) = 12; drawn(0, 1) = 1");
+    }
+
+    /** Every call but schools(), with the answer that tells that it was done, or REFUSED. */
+    private static void drawnStays() {
+        String[] calls = {"letter(1, 1, 1) = 2", "letter(-1, 1, 1) = -1", "child(3) = 2", "child(9) = -1", "terms(0, 5) = 0",
+            "terms(1, 5) = 2", "terms(2, 5) = 0", "terms(3, 5) = -1", "told(0, 1) = 1", "told(8, 1) = -1", "forget() = 0",
+            "read(1, 0) = 2", "read(0, 1) = 1", "read(9, 0) = -2", "answer(0, 0) = 1", "answer(0, 9) = -2", "lose(0, 0) = 0",
+            "lose(1, 0) = -3", "pass() = 1", "undo() = 0", "force(-1) = -1", "force(0) = -2", "image(0) = 0", "image(1) = 0",
+            "image(2) = -1", "back(0) = -2", "back(2) = -1", "row() = -6", "law() = -6", "orders() = -6", "lesson(0, 1, -1) = 0",
+            "heard(0, -1) = 4", "ask(0, 1) = 2", "matched(0) = 1", "together(0, 1) = 1", "clashes(1) = 0", "later(0, 60) = 1",
+            "likest(0, 1) = 0", "lost() = 0", "few(1, 0) = 1000000000000", "compare(-1) = 1", "drawn(0, 2) = -1", "count(0) = 2",
+            "feed(0, 0, 0, 0, 0) = 20", "end(0) = 0"};
+        for (String call : calls) {
+            Run x = run(36, "Behind the latest SCHOOLS, which other calls leave: " + call);
+            x.go("letter(1, 1, 1); letter(12, 0, 9); child(8); child(8); read(0, 0)").all("schools(999999, 1) = 0").all(call);
+            x.all("drawn(0, 0) = 13; drawn(0, 1) = 2; drawn(1, 0) = 0; drawn(1, 1) = 0; drawn(2, 0) = -1; drawn(2, 1) = -1");
+        }
+        Run x = school(36, "Behind the latest SCHOOLS: TEXTS and ROWS leave them");
+        x.go("schools(999999, 1)").law("worth 1", 0).go("force(0)").orders("read 0 to 0;pass;answer 1 by 1;lose 0 of 0", 4);
+        x.orders("pass;lose 7 of 0", -3).orders("pas", -6).law("bar", -6).row(1, 1, 1, 1).go("undo()");
+        x.all("drawn(0, 0) = 12; drawn(0, 1) = 1; drawn(1, 0) = 0; drawn(1, 1) = 0; drawn(2, 0) = -1");
+    }
+
+    /** IMAGES keep all but the latest SCHOOLS: BACK to one there may be other CHILDREN than those had. */
+    private static void drawnBehindBack() {
+        Run x = run(36, "the latest SCHOOLS are kept by no IMAGE: back() leaves fewer CHILDREN than they had");
+        x.go("letter(3, 1, 1); letter(12, 0, 9); image(0); child(8); image(1); child(8)").is("schools(327279, 3)", 0);
+        x.all("drawn(0, 0) = 0; drawn(0, 1) = 0; drawn(1, 0) = 3; drawn(1, 1) = 1; drawn(2, 0) = -1; drawn(2, 1) = -1");
+        x.accepted("back(1)", 0).all("count(2) = 1; of(1, 0) = -1");
+        x.quiet("drawn(0, 0)", 0).quiet("drawn(0, 1)", 0).quiet("drawn(1, 0)", 3).quiet("drawn(1, 1)", 1).quiet("drawn(2, 0)", -1);
+        x.accepted("back(0)", 0).all("count(2) = 0; of(0, 0) = -1");
+        x.quiet("drawn(0, 0)", 0).quiet("drawn(0, 1)", 0).quiet("drawn(1, 0)", 3).quiet("drawn(1, 1)", 1).quiet("drawn(2, 0)", -1);
+        x.quiet("drawn(1, 2)", -1).quiet("drawn(-1, 0)", -1);
+
+        x = run(36, "another CHILD that comes to the number of one that is gone is not the one of the latest SCHOOLS");
+        x.go("letter(3, 1, 1); letter(12, 0, 9); image(0); child(8); child(8); schools(327279, 3); back(0); child(1); child(1); read(1, 1)");
+        x.all("of(1, 0) = 4; of(1, 2) = 1; drawn(1, 0) = 3; drawn(1, 1) = 1; drawn(0, 1) = 0");
+
+        x = run(36, "kept as the latest: later SCHOOLS with fewer CHILDREN, with more");
+        x.go("letter(3, 1, 1); letter(12, 0, 9); child(8); image(0); child(8); image(1); schools(327279, 3); back(0)");
+        x.is("drawn(1, 0)", 3).accepted("schools(999999, 1)", 0).all("drawn(0, 0) = 12; drawn(0, 1) = 1; drawn(1, 0) = -1; drawn(1, 1) = -1");
+        x.accepted("back(1)", 0).all("count(2) = 2; of(1, 0) = 0; drawn(0, 0) = 12; drawn(1, 0) = -1; drawn(1, 1) = -1");
+        x.accepted("schools(327279, 3)", 0).all("drawn(0, 0) = 0; drawn(1, 0) = 3; drawn(1, 1) = 1");
+
+        x = run(36, "a CHILD that came behind the latest SCHOOLS is not in them");
+        x.go("letter(3, 1, 1); child(8); schools(0, 1); child(8)").all("count(2) = 2; of(1, 0) = 0; drawn(1, 0) = -1; drawn(1, 1) = -1");
+        x.go("schools(0, 1)").all("drawn(1, 0) = 0; drawn(1, 1) = 0");
+
+        x = run(36, "back() to an IMAGE ahead of any SCHOOLS, and none were: NONE");
+        x.go("letter(3, 1, 1); child(8); image(0); child(8); back(0)").all("drawn(0, 0) = -1; drawn(0, 1) = -1; drawn(1, 0) = -1");
+    }
+
+    private static void drawnOfSix() {
+        Run x = run(36, "all six CHILDREN, where back() left none");
+        x.go("image(0); letter(63, 0, 0)");
+        for (int i = 0; i < 6; i++) {
+            x.go("child(" + (i + 1) + ")").often(i, "read(0, " + i + ")");
+        }
+        x.go("terms(0, 999)").is("schools(5, 60)", 0).go("back(0)").all("count(0) = 0; count(2) = 0");
+        x.all("drawn(0, 0) = 0; drawn(1, 0) = 3; drawn(2, 0) = 7; drawn(3, 0) = 15; drawn(4, 0) = 31; drawn(5, 0) = 63");
+        x.all("drawn(0, 1) = 0; drawn(1, 1) = 1; drawn(2, 1) = 2; drawn(3, 1) = 3; drawn(4, 1) = 4; drawn(5, 1) = 5");
+        x.all("drawn(6, 0) = -1; drawn(6, 1) = -1; drawn(MAX, 0) = -1; drawn(MIN, 0) = -1; drawn(5, 2) = -1");
+    }
+
+    private static void drawnBehindRefused() {
+        Run x = run(35, "-3 there are no CHILDREN any more: the latest SCHOOLS stay");
+        x.go("letter(3, 1, 1); letter(12, 0, 9); image(0); child(8); child(8); schools(999999, 1); back(0)");
+        x.refused("schools(0, 1)", -3).refused("schools(0, 61)", -1).all("drawn(0, 0) = 12; drawn(0, 1) = 1; drawn(1, 0) = 0; drawn(2, 0) = -1");
+
+        x = run(35, "-3 there are no LETTERS any more: the latest SCHOOLS stay");
+        x.go("child(8); child(8); image(0); letter(3, 1, 1); letter(12, 0, 9); schools(999999, 1); back(0)");
+        x.refused("schools(0, 1)", -3).refused("schools(-1, 1)", -1).all("drawn(0, 0) = 12; drawn(0, 1) = 1; drawn(1, 0) = 0; drawn(2, 0) = -1");
     }
 }

@@ -163,7 +163,13 @@ final class Run {
             for (int what = 0; what < 3; what++) {
                 all.append(call("of", child, what)).append(' ');
             }
-            all.append(call("drawn", child, 0)).append(' ').append(call("drawn", child, 1)).append(' ');
+        }
+        // the latest SCHOOLS have CHILDREN of their own, as many or not
+        boolean there = true;
+        for (int child = 0; there && child < 6; child++) {
+            long knows = call("drawn", child, 0);
+            there = knows != DeadLetters.NONE;
+            all.append(knows).append(' ').append(call("drawn", child, 1)).append(' ');
         }
         all.append(call("heard", 0, -1)).append(' ').append(call("compare", -1)).append(' ').append(call("blots"));
         looked = all.toString();

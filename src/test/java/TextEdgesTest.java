@@ -293,6 +293,8 @@ public final class TextEdgesTest {
         orders(aside, read + ";pass", -1);
         orders(aside, read + ";pass times 2", -1);
         orders(aside, read + ";lose 1 of 1", read.length() + 6);
+        orders(aside, "pass times 2;" + read, -1);
+        orders(aside, "pass times 2;" + read + " if 1=1", ("pass times 2;" + read + " if ").length());
         String knows = "read " + times("knows1+", 40) + times("grown5+", 8) + "1 to 1";
         orders(aside, knows + " times 3", -1);
         orders(aside, knows + ";read day to 1", (knows + ";read ").length());
