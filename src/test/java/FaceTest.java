@@ -50,6 +50,8 @@ public final class FaceTest {
         for (Constructor<?> c : DeadLetters.class.getDeclaredConstructors()) {
             checks.so("one constructor", Modifier.isPublic(c.getModifiers()) && c.getParameterCount() == 0);
         }
+        checks.so("twenty fields at most", fieldsOf(DeadLetters.class) <= 20);
+        checks.so("NONE is -1", DeadLetters.NONE == -1);
         checks.so("final", Modifier.isFinal(DeadLetters.class.getModifiers()));
         Class<?>[] inside = DeadLetters.class.getDeclaredClasses();
         checks.so("twelve classes at most", inside.length < 12);
@@ -58,11 +60,20 @@ public final class FaceTest {
             for (Method m : c.getDeclaredMethods()) {
                 checks.so(c + "'s " + m.getName(), !names.contains(m.getName()) && m.getParameterCount() <= 7);
             }
+            checks.so(c + " has twenty fields at most", fieldsOf(c) <= 20);
             for (Field f : c.getDeclaredFields()) {
                 boolean fixed = !Modifier.isStatic(f.getModifiers()) || Modifier.isFinal(f.getModifiers());
                 checks.so(c + "'s " + f.getName(), fixed);
             }
         }
+    }
+
+    private static int fieldsOf(Class<?> c) {
+        int fields = 0;
+        for (Field f : c.getDeclaredFields()) {
+            fields += Modifier.isStatic(f.getModifiers()) ? 0 : 1;
+        }
+        return fields;
     }
 
     private static void source(Checks checks) throws Exception {
