@@ -298,7 +298,8 @@ public final class ReckonEdgesTest {
             "image(2) = -1", "back(0) = -2", "back(2) = -1", "row() = -6", "law() = -6", "orders() = -6", "lesson(0, 1, -1) = 0",
             "heard(0, -1) = 4", "ask(0, 1) = 2", "matched(0) = 1", "together(0, 1) = 1", "clashes(1) = 0", "later(0, 60) = 1",
             "likest(0, 1) = 0", "lost() = 0", "few(1, 0) = 1000000000000", "compare(-1) = 1", "drawn(0, 2) = -1", "count(0) = 2",
-            "feed(0, 0, 0, 0, 0) = 20", "end(0) = 0"};
+            "feed(0, 0, 0, 0, 0) = 20", "end(0) = 0", "at(1, 0) = 12", "of(0, 0) = 1", "asks(0, 0, 0) = 1", "blots() = 0",
+            "fault() = -1", "stopped() = -1", "status() = 0"};
         for (String call : calls) {
             Run x = run(36, "Behind the latest SCHOOLS, which other calls leave: " + call);
             x.go("letter(1, 1, 1); letter(12, 0, 9); child(8); child(8); read(0, 0)").all("schools(999999, 1) = 0").all(call);
